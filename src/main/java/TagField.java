@@ -338,9 +338,9 @@ public final class TagField {
 
         private final int levels;
         private final long[] shown;
-        private boolean away;
-        private int state;
-        private int level;
+        private boolean away = false;
+        private int state = OUT;
+        private int level = 1;
 
         Tag(int size, int a, int b, int c) {
             levels = (size - 1) / 3;
@@ -348,8 +348,6 @@ public final class TagField {
             for (int i = 0; i < levels; i++) {
                 shown[i] = shownAt(i, i == levels - 1, a, b, c);
             }
-            state = OUT;
-            level = 1;
         }
 
         private static long shownAt(int i, boolean last, int a, int b, int c) {
@@ -382,17 +380,16 @@ public final class TagField {
         }
 
         boolean move(boolean is, boolean on) {
-            boolean moved = away != is;
-            away = is;
-            if (moved) {
-                beginAnew(on);
+            if (away == is) {
+                return false;
             }
-            return moved;
+            away = is;
+            beginAnew(on);
+            return true;
         }
 
         void beginAnew(boolean on) {
             state = on && !away ? IDLE : OUT;
-            level = 1;
         }
 
         int stateAndLevel() {

@@ -1,0 +1,44 @@
+/** The way of a tag of ten bytes, the first of its desk, to each of its states. */
+final class Way {
+    static final int[] STATES = {1, 2, 12, 22, 3, 4, 5, 15, 25, 6, 7};
+
+    /** What the tag shows at its three levels. */
+    static final int[][] SHOWN = {
+        Desk.five(0x88, 0x11, 0x22, 0x33), Desk.five(0x88, 0x44, 0x55, 0x66), Desk.five(0x77, 0x99, 0xAA, 0xBB),
+    };
+
+    private Way() {
+    }
+
+    static void bringTo(Desk desk, int state) {
+        desk.field.tag(10, 0x11223344, 0x55667799, 0xAABB0000);
+        switch (state) {
+            case 1 -> { }
+            case 2, 12, 22, 3, 7 -> goDown(desk, Desk.REQUEST, state);
+            default -> {
+                goDown(desk, Desk.REQUEST, 3);
+                desk.halt();
+                if (state != 4) {
+                    goDown(desk, Desk.WAKE, state);
+                }
+            }
+        }
+        Desk.due("on the way to state " + state, desk.field.state(1), state);
+    }
+
+    private static void goDown(Desk desk, int first, int state) {
+        desk.brief(first);
+        int chosen = switch (state) {
+            case 2, 5 -> 0;
+            case 12, 15 -> 1;
+            case 22, 25 -> 2;
+            default -> 3;
+        };
+        for (int level = 1; level <= chosen; level++) {
+            desk.choose(level, SHOWN[level - 1]);
+        }
+        if (state == 7) {
+            desk.activate(0x80);
+        }
+    }
+}
