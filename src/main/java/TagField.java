@@ -140,12 +140,12 @@ public final class TagField {
             return ((x >>> 8) ^ (y << 8) ^ (y << 3) ^ (y >>> 4)) & 0xFFFF;
         }
 
-        static long withCheck(long bytes, int n) {
+        static long checkedOctetsOf(long bytes, int n) {
             int x = CHECK_OF_NOTHING;
             for (int i = 0; i < n; i++) {
                 x = checkStep(x, (int) (bytes >>> (8 * i)) & 255);
             }
-            return bytes | (long) x << (8 * n);
+            return octetsOf(bytes | (long) x << (8 * n), n + 2);
         }
     }
 
@@ -302,10 +302,6 @@ public final class TagField {
             length = Math.max(length, n);
         }
 
-        void layChecked(long bytes, int n) {
-            lay(Code.octetsOf(Code.withCheck(bytes, n), n + 2), OCTET * (n + 2));
-        }
-
         int bitAt(int i) {
             if (i < 0 || i >= length) {
                 return NONE;
@@ -445,11 +441,12 @@ public final class TagField {
         }
 
         private Reply becomeChosen() {
-            if (level == levels) {
-                return become(state == READY ? ACTIVE : WOKEN_ACTIVE, Reply.B_LAST);
+            if (level < levels) {
+                level++;
+                return Reply.B_MORE;
             }
-            level++;
-            return Reply.B_MORE;
+            state = state == READY ? ACTIVE : WOKEN_ACTIVE;
+            return Reply.B_LAST;
         }
 
         private Reply hearActive(Frame frame) {
@@ -460,8 +457,8 @@ public final class TagField {
         }
 
         private Reply goBack() {
-            boolean woken = state == WOKEN_READY || state == WOKEN_ACTIVE;
-            return become(woken ? HALTED : IDLE, Reply.NOTHING);
+            state = state == READY || state == ACTIVE ? IDLE : HALTED;
+            return Reply.NOTHING;
         }
 
         void say(Reply reply, Frame frame, Answer answer) {
@@ -475,16 +472,17 @@ public final class TagField {
                     answer.lay(octets >>> passed, 5 * OCTET - passed);
                     break;
                 case B_MORE:
-                    answer.layChecked(ONE_MORE_LEVEL, 1);
+                    answer.lay(Code.checkedOctetsOf(ONE_MORE_LEVEL, 1), 3 * OCTET);
                     break;
                 case B_LAST:
-                    answer.layChecked(NO_MORE_LEVEL, 1);
+                    answer.lay(Code.checkedOctetsOf(NO_MORE_LEVEL, 1), 3 * OCTET);
                     break;
                 case C:
-                    answer.layChecked(0x03 | 0x02 << 8 | frame.second << 16, 3);
+                    long bytes = 0x03 | 0x02 << 8 | frame.second << 16;
+                    answer.lay(Code.checkedOctetsOf(bytes, 3), 5 * OCTET);
                     break;
                 case D:
-                    answer.layChecked(RELEASE, 1);
+                    answer.lay(Code.checkedOctetsOf(RELEASE, 1), 3 * OCTET);
                     break;
                 default:
                     break;
