@@ -7,12 +7,22 @@ final class Desk {
     static final int WAKE = 0x52;
 
     private static int wrong = 0;
+    private static String sentence = "";
 
     final TagField field = new TagField();
+
+    /** The sentence of the document by which the answers from here on are due. */
+    static void sentence(String where, String words) {
+        sentence = where + ": \"" + words + "\"";
+    }
 
     static void due(String what, Object got, Object want) {
         if (!got.equals(want)) {
             wrong++;
+            if (!sentence.isEmpty()) {
+                System.out.println("broken is " + sentence);
+                sentence = "";
+            }
             System.out.println(what + " answered " + got + ", due is " + want);
         }
     }
@@ -121,6 +131,22 @@ final class Desk {
             text.append(field.answer(i));
         }
         return text.toString();
+    }
+
+    /** All states, a text: those of the first tags of so many. */
+    String states(int tags) {
+        StringBuilder text = new StringBuilder();
+        for (int tag = 1; tag <= tags; tag++) {
+            text.append(tag > 1 ? " " : "").append(field.state(tag));
+        }
+        return text.toString();
+    }
+
+    /** Types so many bits, all of them 0. */
+    void zeros(int count) {
+        for (int left = count; left > 0; left -= 32) {
+            field.bits(0, Math.min(left, 32));
+        }
     }
 
     /** The i-th number that was found, byte by byte. */

@@ -5,6 +5,7 @@ import java.lang.reflect.Method;
 import java.lang.reflect.Modifier;
 import java.nio.file.Files;
 import java.nio.file.Path;
+import java.util.ArrayList;
 import java.util.Arrays;
 import java.util.List;
 import java.util.Set;
@@ -24,7 +25,10 @@ public final class FaceTest {
         constants();
         face();
         noNestedMethodBearsAPublicName();
+        staticFieldsAreConstants();
+        sizes();
         source();
+        methodsAreShort();
         Desk.end();
     }
 
@@ -65,6 +69,52 @@ public final class FaceTest {
             for (Method method : inside.getDeclaredMethods()) {
                 boolean taken = METHODS.stream().anyMatch(m -> m.startsWith("int " + method.getName() + "("));
                 Desk.due(method + " bears a public name", taken, false);
+            }
+        }
+    }
+
+    /** TagField and the classes inside it. */
+    private static List<Class<?>> classes() {
+        List<Class<?>> all = new ArrayList<>(List.of(TagField.class.getDeclaredClasses()));
+        all.add(TagField.class);
+        return all;
+    }
+
+    private static void staticFieldsAreConstants() {
+        Set<Class<?>> types = Set.of(int.class, long.class, boolean.class, char.class, String.class,
+                int[].class, long[].class, char[].class, byte[].class);
+        for (Class<?> one : classes()) {
+            for (Field field : one.getDeclaredFields()) {
+                boolean constant = types.contains(field.getType()) || field.isEnumConstant() || field.isSynthetic();
+                boolean isFinal = Modifier.isFinal(field.getModifiers());
+                boolean isStatic = Modifier.isStatic(field.getModifiers());
+                Desk.due(field + " is a constant, if static", !isStatic || isFinal && constant, true);
+            }
+        }
+    }
+
+    private static void sizes() {
+        Desk.due("more than 12 classes", classes().size() > 12, false);
+        for (Class<?> one : classes()) {
+            long fields = Arrays.stream(one.getDeclaredFields())
+                    .filter(field -> !Modifier.isStatic(field.getModifiers())).count();
+            Desk.due(one + " has more than 20 fields", fields > 20, false);
+            for (Method method : one.getDeclaredMethods()) {
+                Desk.due(method + " has more than 7 parameters", method.getParameterCount() > 7, false);
+            }
+        }
+    }
+
+    /** A method ends at the first closing brace that stands as far in as it does. */
+    private static void methodsAreShort() throws IOException {
+        List<String> lines = Files.readAllLines(Path.of("src/main/java/TagField.java"));
+        for (int i = 0; i < lines.size(); i++) {
+            String line = lines.get(i);
+            String indent = line.substring(0, line.length() - line.stripLeading().length());
+            boolean method = line.endsWith(") {") && (indent.length() == 4 || indent.length() == 8);
+            if (method && !line.strip().startsWith("for ") && !line.strip().startsWith("if ")) {
+                int length = lines.subList(i, lines.size()).indexOf(indent + "}") + 1;
+                Desk.due("more than 60 lines: " + line.strip(), length > 60, false);
             }
         }
     }

@@ -10,8 +10,17 @@ final class Way {
     private Way() {
     }
 
+    static int bring(Desk desk) {
+        return desk.field.tag(10, 0x11223344, 0x55667799, 0xAABB0000);
+    }
+
     static void bringTo(Desk desk, int state) {
-        desk.field.tag(10, 0x11223344, 0x55667799, 0xAABB0000);
+        bring(desk);
+        lead(desk, state);
+    }
+
+    /** Leads the tag, which is IDLE; others that hear it must be such that they leave it alone. */
+    static void lead(Desk desk, int state) {
         switch (state) {
             case 1 -> { }
             case 2, 12, 22, 3, 7 -> goDown(desk, Desk.REQUEST, state);
@@ -24,6 +33,20 @@ final class Way {
             }
         }
         Desk.due("on the way to state " + state, desk.field.state(1), state);
+    }
+
+    /** The level at which a tag in a state is READY. */
+    static int level(int state) {
+        return 1 + state / 10;
+    }
+
+    /** Where a tag is after a frame that is BAD. */
+    static int back(int state) {
+        return switch (state % 10) {
+            case 2, 3 -> 1;
+            case 5, 6 -> 4;
+            default -> state;
+        };
     }
 
     private static void goDown(Desk desk, int first, int state) {
