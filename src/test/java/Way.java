@@ -19,7 +19,7 @@ final class Way {
         lead(desk, state);
     }
 
-    /** Leads the tag, which is IDLE; others that hear it must be such that they leave it alone. */
+    /** Leads the tag on from IDLE; other tags in the field hear all of it, too. */
     static void lead(Desk desk, int state) {
         switch (state) {
             case 1 -> { }
